@@ -23,6 +23,7 @@ public final class ForecastTest {
         digestOfNothing();
         digestOfOnePerson();
         digestOfMany();
+        digestLooksAheadByItsDays();
         CHECKS.end();
     }
 
@@ -185,8 +186,10 @@ public final class ForecastTest {
 
     private static void borneInRefusals() {
         ApologyLedger x = Ledgers.ofEachState();
+        ApologyLedger bare = Ledgers.ofThree();
         for (int days : new int[] {0, 61, -1, Integer.MIN_VALUE, Integer.MAX_VALUE}) {
             CHECKS.badArgument("borneIn(0, " + days + ")", x, () -> x.borneIn(0, days));
+            CHECKS.badArgument("borneIn(1, " + days + ") without slights", bare, () -> bare.borneIn(1, days));
             CHECKS.noSuch("borneIn(3, " + days + ")", x, () -> x.borneIn(3, days));
         }
         for (int nobody : Ledgers.NOBODY) {
@@ -294,5 +297,25 @@ public final class ForecastTest {
             21, 0, 4, 1, 1, 19, 25, 29,
             7, 0, 4, 4, 1, 5, 9, 26,
             0, 1, 3, 3, 0, -1, 0, -1));
+    }
+
+    /** Borne for 4, 3, 2 and 0 days: each gets heavier at another distance from today. */
+    private static void digestLooksAheadByItsDays() {
+        ApologyLedger x = Ledgers.withPrides(0, 0);
+        x.slight(0, 1, 1);
+        x.pass(1);
+        x.slight(0, 1, 1);
+        x.pass(1);
+        x.slight(0, 1, 1);
+        x.pass(2);
+        x.slight(0, 1, 1);
+        CHECKS.same("digest() of four slights", x.digest(), digestOf(
+            4, 2, 4, 0, 0, 1, 4, 0, 0, 0, 0, 0,
+            0, 0, 0, 4, 0, 0,
+            0, 0, 4, 0, 12, -1,
+            1, 0, 4, 4, 0, 1, 3, 26,
+            1, 0, 3, 3, 0, 1, 3, 27,
+            1, 0, 2, 2, 0, 1, 2, 28,
+            1, 0, 0, 0, 0, 1, 2, 30));
     }
 }

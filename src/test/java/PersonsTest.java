@@ -17,6 +17,7 @@ public final class PersonsTest {
         owedBy();
         balance();
         sorest();
+        theFullLedger();
         CHECKS.end();
     }
 
@@ -163,5 +164,26 @@ public final class PersonsTest {
         CHECKS.same("sorest()", x.sorest(), 2);
         x.pass(60);
         CHECKS.same("sorest() with all forgotten", x.sorest(), 0);
+    }
+
+    /** Every place is taken: a look one place too far would leave the rows. */
+    private static void theFullLedger() {
+        ApologyLedger x = Ledgers.fullHall();
+        for (int i = 0; i < 20; i++) {
+            x.slight(i % 6, (i + 1) % 6, 1 + i);
+        }
+        CHECKS.same("inHall() of six", x.inHall(), 6);
+        CHECKS.same("borneBy(0) of twenty", x.borneBy(0), 6 + 12 + 18);
+        CHECKS.same("owedBy(1) of twenty", x.owedBy(1), 2 + 8 + 14 + 20);
+        CHECKS.same("balance(1, 2) of twenty", x.balance(1, 2), 2 + 8 + 14 + 20);
+        CHECKS.same("sorest() of six", x.sorest(), 2);
+        CHECKS.same("heaviest() of twenty", x.heaviest(), 19);
+        CHECKS.same("pairsToSetOff() of twenty", x.pairsToSetOff(), 0);
+        CHECKS.same("inState(0) of twenty", x.inState(0), 20);
+        CHECKS.same("witnessesFor(19) of six", x.witnessesFor(19), 4);
+        CHECKS.same("borneIn(0, 5) of twenty", x.borneIn(0, 5), 7 + 13 + 19);
+        CHECKS.same("worstToKeep(1) of twenty", x.worstToKeep(1), 19);
+        CHECKS.sameDouble("meanWeight() of twenty", x.meanWeight(), 10.5);
+        CHECKS.same("pass(30) of twenty", x.pass(30), 20);
     }
 }
