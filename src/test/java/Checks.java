@@ -1,5 +1,7 @@
 import java.util.ArrayList;
 import java.util.List;
+import java.util.function.Consumer;
+import java.util.function.Supplier;
 
 /** Counts the answers that are not due, prints each, and ends the program with 1 if there was one. */
 final class Checks {
@@ -7,6 +9,24 @@ final class Checks {
 
     private int checked;
     private int wrong;
+    private String sentence = "";
+    private int checkedBeforeSentence = -1;
+
+    /**
+     * What the checks from here on are about: a place in the document, and its own words there. A
+     * sentence that no check follows is told as a fault, so that none is quoted for nothing.
+     */
+    void sentence(String place, String words) {
+        endSentence();
+        sentence = place + ", \"" + words + "\": ";
+        checkedBeforeSentence = checked;
+    }
+
+    private void endSentence() {
+        if (checked == checkedBeforeSentence) {
+            tell("nothing is checked");
+        }
+    }
 
     void same(String call, long got, long due) {
         checked++;
@@ -27,10 +47,9 @@ final class Checks {
         }
     }
 
-    /** The call throws just this exception, none of the machine's below it, and changes nothing. */
-    void refused(String call, Class<? extends RuntimeException> due, ApologyLedger ledger, Runnable run) {
+    /** The call throws just this exception, or nothing for null: none of the machine's below it. */
+    void thrown(String call, Class<? extends RuntimeException> due, Runnable run) {
         checked++;
-        List<Number> before = pictureOf(ledger);
         Class<?> got = null;
         try {
             run.run();
@@ -40,31 +59,51 @@ final class Checks {
         if (got != due) {
             tell(call + " threw " + got + ", due is " + due);
         }
-        if (!before.equals(pictureOf(ledger))) {
+    }
+
+    void allowed(String call, Supplier<ApologyLedger> made, Consumer<ApologyLedger> run) {
+        ApologyLedger x = made.get();
+        thrown(call, null, () -> run.accept(x));
+    }
+
+    /** The call throws nothing and changes nothing. */
+    void unchanged(String call, Supplier<ApologyLedger> made, Consumer<ApologyLedger> run) {
+        throwsAndChangesNothing(call, null, made, run);
+    }
+
+    void noSuch(String call, Supplier<ApologyLedger> made, Consumer<ApologyLedger> run) {
+        throwsAndChangesNothing(call, IndexOutOfBoundsException.class, made, run);
+    }
+
+    void badArgument(String call, Supplier<ApologyLedger> made, Consumer<ApologyLedger> run) {
+        throwsAndChangesNothing(call, IllegalArgumentException.class, made, run);
+    }
+
+    void badState(String call, Supplier<ApologyLedger> made, Consumer<ApologyLedger> run) {
+        throwsAndChangesNothing(call, IllegalStateException.class, made, run);
+    }
+
+    /** On a ledger of its own, since the pictures are calls too, and an object is used for 512 at most. */
+    private void throwsAndChangesNothing(String call, Class<? extends RuntimeException> due,
+            Supplier<ApologyLedger> made, Consumer<ApologyLedger> run) {
+        ApologyLedger x = made.get();
+        List<Number> before = pictureOf(x);
+        thrown(call, due, () -> run.accept(x));
+        checked++;
+        if (!before.equals(pictureOf(x))) {
             tell(call + " changed something");
         }
-    }
-
-    void noSuch(String call, ApologyLedger ledger, Runnable run) {
-        refused(call, IndexOutOfBoundsException.class, ledger, run);
-    }
-
-    void badArgument(String call, ApologyLedger ledger, Runnable run) {
-        refused(call, IllegalArgumentException.class, ledger, run);
-    }
-
-    void badState(String call, ApologyLedger ledger, Runnable run) {
-        refused(call, IllegalStateException.class, ledger, run);
     }
 
     private void tell(String text) {
         wrong++;
         if (wrong <= MOST_TOLD) {
-            System.out.println(text);
+            System.out.println(sentence + text);
         }
     }
 
     void end() {
+        endSentence();
         System.out.println(checked + " checks, " + wrong + " wrong");
         if (wrong != 0) {
             System.exit(1);
@@ -73,12 +112,16 @@ final class Checks {
 
     /** All that tells one state of a ledger from another. */
     private static List<Number> pictureOf(ApologyLedger x) {
-        List<Number> picture = new ArrayList<>(List.of(x.day(), x.scorned(), x.persons(), x.slights()));
-        for (int person = 0; person < x.persons(); person++) {
+        List<Number> picture = new ArrayList<>(List.of(x.day(), x.scorned(), x.digest()));
+        int persons = x.persons();
+        picture.add(persons);
+        for (int person = 0; person < persons; person++) {
             picture.add(x.prideOf(person));
             picture.add(x.isInHall(person) ? 1 : 0);
         }
-        for (int slight = 0; slight < x.slights(); slight++) {
+        int slights = x.slights();
+        picture.add(slights);
+        for (int slight = 0; slight < slights; slight++) {
             picture.add(x.offenderOf(slight));
             picture.add(x.offendedOf(slight));
             picture.add(x.weightOf(slight));

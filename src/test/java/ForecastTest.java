@@ -7,18 +7,13 @@ public final class ForecastTest {
 
     public static void main(String[] args) {
         wordsWanted();
-        wordsWantedRefusals();
         wouldBeScorned();
-        wouldBeScornedRefusals();
         weightIn();
         weightInOfForgotten();
-        weightInRefusals();
         daysUntilForgotten();
         borneIn();
-        borneInRefusals();
         worstToKeep();
         worstToKeepOfForgotten();
-        worstToKeepRefusals();
         meanWeight();
         digestOfNothing();
         digestOfOnePerson();
@@ -54,16 +49,6 @@ public final class ForecastTest {
         CHECKS.same("wordsWanted(1), settled", x.wordsWanted(1), -1);
     }
 
-    private static void wordsWantedRefusals() {
-        ApologyLedger x = Ledgers.ofEachState();
-        CHECKS.same("wordsWanted(2), forgotten", x.wordsWanted(2), -1);
-        CHECKS.same("wordsWanted(3), set off", x.wordsWanted(3), -1);
-        CHECKS.noSuch("wordsWanted(5)", x, () -> x.wordsWanted(5));
-        for (int nothing : Ledgers.NOTHING) {
-            CHECKS.noSuch("wordsWanted(" + nothing + ")", x, () -> x.wordsWanted(nothing));
-        }
-    }
-
     private static void wouldBeScorned() {
         ApologyLedger x = Ledgers.withPrides(0, 3, 0);
         x.slight(0, 1, 8);
@@ -81,25 +66,6 @@ public final class ForecastTest {
         CHECKS.same("wouldBeScorned(0, 20) at 99", x.wouldBeScorned(0, 20), true);
         CHECKS.same("scorned(), nothing changed", x.scorned(), 0);
         CHECKS.same("weightOf(1), nothing changed", x.weightOf(1), 23);
-    }
-
-    private static void wouldBeScornedRefusals() {
-        ApologyLedger x = Ledgers.ofEachState();
-        x.setPride(0, 9);
-        x.setPride(1, 9);
-        x.setPride(2, 9);
-        CHECKS.same("wouldBeScorned(0, 1), open", x.wouldBeScorned(0, 1), true);
-        for (int slight = 1; slight <= 3; slight++) {
-            CHECKS.same("wouldBeScorned(" + slight + ", 1), not open", x.wouldBeScorned(slight, 1), false);
-        }
-        for (int words : new int[] {0, 21, -1, Integer.MIN_VALUE, Integer.MAX_VALUE}) {
-            CHECKS.badArgument("wouldBeScorned(0, " + words + ")", x, () -> x.wouldBeScorned(0, words));
-            CHECKS.badArgument("wouldBeScorned(1, " + words + ")", x, () -> x.wouldBeScorned(1, words));
-            CHECKS.noSuch("wouldBeScorned(5, " + words + ")", x, () -> x.wouldBeScorned(5, words));
-        }
-        for (int nothing : Ledgers.NOTHING) {
-            CHECKS.noSuch("wouldBeScorned(" + nothing + ", 1)", x, () -> x.wouldBeScorned(nothing, 1));
-        }
     }
 
     private static void weightIn() {
@@ -132,21 +98,6 @@ public final class ForecastTest {
         CHECKS.same("weightIn(0, 10), spoken of", x.weightIn(0, 10), 34);
     }
 
-    private static void weightInRefusals() {
-        ApologyLedger x = Ledgers.ofEachState();
-        for (int slight = 1; slight <= 3; slight++) {
-            CHECKS.same("weightIn(" + slight + ", 5), not open", x.weightIn(slight, 5), 0);
-        }
-        for (int days : new int[] {0, 61, -1, Integer.MIN_VALUE, Integer.MAX_VALUE}) {
-            CHECKS.badArgument("weightIn(0, " + days + ")", x, () -> x.weightIn(0, days));
-            CHECKS.badArgument("weightIn(1, " + days + ")", x, () -> x.weightIn(1, days));
-            CHECKS.noSuch("weightIn(5, " + days + ")", x, () -> x.weightIn(5, days));
-        }
-        for (int nothing : Ledgers.NOTHING) {
-            CHECKS.noSuch("weightIn(" + nothing + ", 1)", x, () -> x.weightIn(nothing, 1));
-        }
-    }
-
     private static void daysUntilForgotten() {
         ApologyLedger x = Ledgers.ofEachState();
         CHECKS.same("daysUntilForgotten(0)", x.daysUntilForgotten(0), 29);
@@ -159,10 +110,6 @@ public final class ForecastTest {
         CHECKS.same("daysUntilForgotten(0), the last day", x.daysUntilForgotten(0), 1);
         x.pass(1);
         CHECKS.same("daysUntilForgotten(0), forgotten", x.daysUntilForgotten(0), -1);
-        CHECKS.noSuch("daysUntilForgotten(5)", x, () -> x.daysUntilForgotten(5));
-        for (int nothing : Ledgers.NOTHING) {
-            CHECKS.noSuch("daysUntilForgotten(" + nothing + ")", x, () -> x.daysUntilForgotten(nothing));
-        }
     }
 
     private static void borneIn() {
@@ -182,19 +129,6 @@ public final class ForecastTest {
         CHECKS.same("inState(0), nothing changed", x.inState(0), 3);
         x.apologize(1, 8);
         CHECKS.same("borneIn(1, 5), one settled", x.borneIn(1, 5), 26);
-    }
-
-    private static void borneInRefusals() {
-        ApologyLedger x = Ledgers.ofEachState();
-        ApologyLedger bare = Ledgers.ofThree();
-        for (int days : new int[] {0, 61, -1, Integer.MIN_VALUE, Integer.MAX_VALUE}) {
-            CHECKS.badArgument("borneIn(0, " + days + ")", x, () -> x.borneIn(0, days));
-            CHECKS.badArgument("borneIn(1, " + days + ") without slights", bare, () -> bare.borneIn(1, days));
-            CHECKS.noSuch("borneIn(3, " + days + ")", x, () -> x.borneIn(3, days));
-        }
-        for (int nobody : Ledgers.NOBODY) {
-            CHECKS.noSuch("borneIn(" + nobody + ", 1)", x, () -> x.borneIn(nobody, 1));
-        }
     }
 
     private static void worstToKeep() {
@@ -232,15 +166,6 @@ public final class ForecastTest {
         Ledgers.mentionTimes(x, 0, 80);
         x.pass(20);
         CHECKS.same("worstToKeep(0), the only one, at 99", x.worstToKeep(0), 0);
-    }
-
-    private static void worstToKeepRefusals() {
-        ApologyLedger x = Ledgers.ofEachState();
-        CHECKS.same("worstToKeep(1), only a settled one", x.worstToKeep(1), -1);
-        CHECKS.noSuch("worstToKeep(3)", x, () -> x.worstToKeep(3));
-        for (int nobody : Ledgers.NOBODY) {
-            CHECKS.noSuch("worstToKeep(" + nobody + ")", x, () -> x.worstToKeep(nobody));
-        }
     }
 
     private static void meanWeight() {

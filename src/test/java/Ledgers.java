@@ -5,12 +5,6 @@ final class Ledgers {
     static final int FORGOTTEN = 2;
     static final int SET_OFF = 3;
 
-    /** Numbers that no person ever bears. */
-    static final int[] NOBODY = {-1, 6, 7, Integer.MIN_VALUE, Integer.MAX_VALUE};
-
-    /** Numbers that no slight ever bears. */
-    static final int[] NOTHING = {-1, 20, 21, Integer.MIN_VALUE, Integer.MAX_VALUE};
-
     private Ledgers() {
     }
 
@@ -22,17 +16,76 @@ final class Ledgers {
         return x;
     }
 
-    /** Three persons without pride. */
+    /** So many persons without pride, none of them in the hall. */
+    static ApologyLedger ofPersons(int count) {
+        return withPrides(new int[count]);
+    }
+
     static ApologyLedger ofThree() {
-        return withPrides(0, 0, 0);
+        return ofPersons(3);
     }
 
     /** Six persons without pride, all of them in the hall. */
     static ApologyLedger fullHall() {
-        ApologyLedger x = withPrides(0, 0, 0, 0, 0, 0);
+        ApologyLedger x = ofPersons(6);
         for (int person = 0; person < 6; person++) {
             x.enter(person);
         }
+        return x;
+    }
+
+    /**
+     * A full hall and so many open slights, of the weights 1, 2, 3 and so on: 0 against 1 and 1
+     * against 0 by turns, so that the slights 2k and 2k + 1 can be set off.
+     */
+    static ApologyLedger ofSlights(int count) {
+        ApologyLedger x = fullHall();
+        for (int i = 0; i < count; i++) {
+            x.slight(i % 2, 1 - i % 2, 1 + i);
+        }
+        return x;
+    }
+
+    /** Six persons and twenty slights of the weights 1 to 20: each person against the next one. */
+    static ApologyLedger full() {
+        ApologyLedger x = fullHall();
+        for (int i = 0; i < 20; i++) {
+            x.slight(i % 6, (i + 1) % 6, 1 + i);
+        }
+        return x;
+    }
+
+    /** Slight 0, of 0 against 1 among six persons without pride, just made and spoken of up to the weight. */
+    static ApologyLedger withWeight(int weight) {
+        ApologyLedger x = ofPersons(6);
+        x.slight(0, 1, Math.min(weight, 20));
+        mentionTimes(x, 0, weight - Math.min(weight, 20));
+        return x;
+    }
+
+    /** Slight 0, of 0 against 1 of six persons without pride, of the weight 20, quiet for so many days. */
+    static ApologyLedger quietFor(int days) {
+        ApologyLedger x = ofPersons(6);
+        x.slight(0, 1, 20);
+        if (days > 0) {
+            x.pass(days);
+        }
+        return x;
+    }
+
+    /** Twenty slights of 0 against 1, all of the weight 99, reached by bearing them: quiet for 15 days. */
+    static ApologyLedger allAt99() {
+        ApologyLedger x = ofPersons(6);
+        for (int i = 0; i < 20; i++) {
+            x.slight(0, 1, 20);
+        }
+        for (int times = 0; times < 3; times++) {
+            x.pass(25);
+            for (int i = 0; i < 20; i++) {
+                x.mention(i);
+            }
+        }
+        x.pass(15);
         return x;
     }
 

@@ -78,10 +78,6 @@ public final class PersonsTest {
         x.enter(2);
         CHECKS.same("isInHall(1)", x.isInHall(1), false);
         CHECKS.same("isInHall(2)", x.isInHall(2), true);
-        for (int nobody : Ledgers.NOBODY) {
-            CHECKS.noSuch("isInHall(" + nobody + ")", x, () -> x.isInHall(nobody));
-        }
-        CHECKS.noSuch("isInHall(3)", x, () -> x.isInHall(3));
     }
 
     private static void prideOf() {
@@ -89,10 +85,6 @@ public final class PersonsTest {
         CHECKS.same("prideOf(0)", x.prideOf(0), 9);
         CHECKS.same("prideOf(1)", x.prideOf(1), 0);
         CHECKS.same("prideOf(2)", x.prideOf(2), 4);
-        for (int nobody : Ledgers.NOBODY) {
-            CHECKS.noSuch("prideOf(" + nobody + ")", x, () -> x.prideOf(nobody));
-        }
-        CHECKS.noSuch("prideOf(3)", x, () -> x.prideOf(3));
     }
 
     /** Weights 1, 2, 4 and 8, so that each sum tells which slights are in it. */
@@ -114,10 +106,6 @@ public final class PersonsTest {
         x.setOff(1, 2);
         CHECKS.same("borneBy(1), two no more open", x.borneBy(1), 1);
         CHECKS.same("borneBy(2)", x.borneBy(2), 2);
-        for (int nobody : Ledgers.NOBODY) {
-            CHECKS.noSuch("borneBy(" + nobody + ")", x, () -> x.borneBy(nobody));
-        }
-        CHECKS.noSuch("borneBy(3)", x, () -> x.borneBy(3));
     }
 
     private static void owedBy() {
@@ -130,10 +118,6 @@ public final class PersonsTest {
         CHECKS.same("owedBy(0), one no more open", x.owedBy(0), 8);
         CHECKS.same("owedBy(1)", x.owedBy(1), 2);
         CHECKS.same("owedBy(2), none open", x.owedBy(2), 0);
-        for (int nobody : Ledgers.NOBODY) {
-            CHECKS.noSuch("owedBy(" + nobody + ")", x, () -> x.owedBy(nobody));
-        }
-        CHECKS.noSuch("owedBy(3)", x, () -> x.owedBy(3));
     }
 
     private static void balance() {
@@ -146,11 +130,6 @@ public final class PersonsTest {
         CHECKS.same("balance(1, 1)", x.balance(1, 1), 0);
         x.apologize(4, 16);
         CHECKS.same("balance(0, 1), one settled", x.balance(0, 1), 9);
-        for (int nobody : Ledgers.NOBODY) {
-            CHECKS.noSuch("balance(" + nobody + ", 0)", x, () -> x.balance(nobody, 0));
-            CHECKS.noSuch("balance(0, " + nobody + ")", x, () -> x.balance(0, nobody));
-        }
-        CHECKS.noSuch("balance(3, 3)", x, () -> x.balance(3, 3));
     }
 
     private static void sorest() {

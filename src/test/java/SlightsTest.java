@@ -1,5 +1,3 @@
-import java.util.function.IntConsumer;
-
 /** Promises 21 to 30: what is told of slights. */
 public final class SlightsTest {
     private static final Checks CHECKS = new Checks();
@@ -21,14 +19,6 @@ public final class SlightsTest {
         CHECKS.end();
     }
 
-    /** The ledger has five slights. */
-    private static void refusesOtherSlights(String name, ApologyLedger x, IntConsumer call) {
-        for (int nothing : Ledgers.NOTHING) {
-            CHECKS.noSuch(name + "(" + nothing + ")", x, () -> call.accept(nothing));
-        }
-        CHECKS.noSuch(name + "(5)", x, () -> call.accept(5));
-    }
-
     private static void answers(String name, int slight, int got, int... due) {
         CHECKS.same(name + "(" + slight + ")", got, due[slight]);
     }
@@ -38,7 +28,6 @@ public final class SlightsTest {
         for (int slight = 0; slight < 5; slight++) {
             answers("offenderOf", slight, x.offenderOf(slight), 0, 1, 2, 0, 2);
         }
-        refusesOtherSlights("offenderOf", x, x::offenderOf);
     }
 
     private static void offendedOf() {
@@ -46,7 +35,6 @@ public final class SlightsTest {
         for (int slight = 0; slight < 5; slight++) {
             answers("offendedOf", slight, x.offendedOf(slight), 1, 2, 0, 2, 0);
         }
-        refusesOtherSlights("offendedOf", x, x::offendedOf);
     }
 
     private static void weightOf() {
@@ -55,7 +43,6 @@ public final class SlightsTest {
         for (int slight = 0; slight < 5; slight++) {
             answers("weightOf", slight, x.weightOf(slight), 34, 0, 0, 0, 13);
         }
-        refusesOtherSlights("weightOf", x, x::weightOf);
     }
 
     private static void stateOf() {
@@ -63,7 +50,6 @@ public final class SlightsTest {
         for (int slight = 0; slight < 5; slight++) {
             answers("stateOf", slight, x.stateOf(slight), 0, 1, 2, 3, 0);
         }
-        refusesOtherSlights("stateOf", x, x::stateOf);
     }
 
     private static void borneFor() {
@@ -74,7 +60,6 @@ public final class SlightsTest {
         x.pass(4);
         CHECKS.same("borneFor(0), open", x.borneFor(0), 34);
         CHECKS.same("borneFor(2), forgotten", x.borneFor(2), 30);
-        refusesOtherSlights("borneFor", x, x::borneFor);
     }
 
     private static void quietFor() {
@@ -85,7 +70,6 @@ public final class SlightsTest {
         x.pass(4);
         CHECKS.same("quietFor(0), open", x.quietFor(0), 5);
         CHECKS.same("quietFor(2), forgotten", x.quietFor(2), 30);
-        refusesOtherSlights("quietFor", x, x::quietFor);
     }
 
     private static void witnessesFor() {
@@ -103,7 +87,6 @@ public final class SlightsTest {
         CHECKS.same("witnessesFor(0), the offender out", x.witnessesFor(0), 2);
         CHECKS.same("witnessesFor(2), forgotten", x.witnessesFor(2), 2);
         CHECKS.same("witnessesFor(3), set off", x.witnessesFor(3), 2);
-        refusesOtherSlights("witnessesFor", x, x::witnessesFor);
         ApologyLedger full = Ledgers.fullHall();
         full.slight(4, 2, 1);
         CHECKS.same("witnessesFor(0) of a full hall", full.witnessesFor(0), 4);
@@ -115,9 +98,6 @@ public final class SlightsTest {
         CHECKS.same("inState(1)", x.inState(1), 1);
         CHECKS.same("inState(2)", x.inState(2), 1);
         CHECKS.same("inState(3)", x.inState(3), 1);
-        for (int state : new int[] {-1, 4, Integer.MIN_VALUE, Integer.MAX_VALUE}) {
-            CHECKS.badArgument("inState(" + state + ")", x, () -> x.inState(state));
-        }
     }
 
     private static void heaviest() {

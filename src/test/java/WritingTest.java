@@ -8,24 +8,18 @@ public final class WritingTest {
     public static void main(String[] args) {
         aNewObject();
         addPerson();
-        addPersonRefusals();
         enter();
         slight();
-        slightRefusals();
         mention();
-        mentionRefusals();
         apologize();
         apologizeWithWitnesses();
         apologizeScorned();
         apologizeIsNotSpeaking();
-        apologizeRefusals();
         setOff();
-        setOffRefusals();
         setPride();
         pass();
         passGrowth();
         passForgets();
-        passRefusals();
         CHECKS.end();
     }
 
@@ -57,18 +51,6 @@ public final class WritingTest {
         }
     }
 
-    private static void addPersonRefusals() {
-        ApologyLedger x = Ledgers.withPrides(0, 1, 2, 3, 4);
-        for (int pride : new int[] {-1, 10, Integer.MIN_VALUE, Integer.MAX_VALUE}) {
-            CHECKS.badArgument("addPerson(" + pride + ")", x, () -> x.addPerson(pride));
-        }
-        x.addPerson(5);
-        CHECKS.badState("a seventh addPerson(0)", x, () -> x.addPerson(0));
-        CHECKS.badState("a seventh addPerson(9)", x, () -> x.addPerson(9));
-        CHECKS.badArgument("a seventh addPerson(10)", x, () -> x.addPerson(10));
-        CHECKS.badArgument("a seventh addPerson(-1)", x, () -> x.addPerson(-1));
-    }
-
     private static void enter() {
         ApologyLedger x = Ledgers.ofThree();
         CHECKS.same("enter(1)", x.enter(1), true);
@@ -77,10 +59,6 @@ public final class WritingTest {
         CHECKS.same("enter(1) again", x.enter(1), false);
         CHECKS.same("isInHall(1) again", x.isInHall(1), false);
         CHECKS.same("enter(1) a third time", x.enter(1), true);
-        CHECKS.noSuch("enter(3)", x, () -> x.enter(3));
-        for (int nobody : Ledgers.NOBODY) {
-            CHECKS.noSuch("enter(" + nobody + ")", x, () -> x.enter(nobody));
-        }
     }
 
     private static void slight() {
@@ -101,31 +79,6 @@ public final class WritingTest {
         CHECKS.same("slights()", x.slights(), 20);
     }
 
-    private static void slightRefusals() {
-        ApologyLedger x = Ledgers.ofThree();
-        for (int nobody : Ledgers.NOBODY) {
-            CHECKS.noSuch("slight(" + nobody + ", 0, 5)", x, () -> x.slight(nobody, 0, 5));
-            CHECKS.noSuch("slight(0, " + nobody + ", 5)", x, () -> x.slight(0, nobody, 5));
-            CHECKS.noSuch("slight(" + nobody + ", itself, 5)", x, () -> x.slight(nobody, nobody, 5));
-            CHECKS.noSuch("slight(0, " + nobody + ", 0)", x, () -> x.slight(0, nobody, 0));
-        }
-        CHECKS.noSuch("slight(3, 0, 5)", x, () -> x.slight(3, 0, 5));
-        CHECKS.noSuch("slight(0, 3, 5)", x, () -> x.slight(0, 3, 5));
-        CHECKS.badArgument("slight(1, 1, 5)", x, () -> x.slight(1, 1, 5));
-        for (int weight : new int[] {0, 21, -1, Integer.MIN_VALUE, Integer.MAX_VALUE}) {
-            CHECKS.badArgument("slight(0, 1, " + weight + ")", x, () -> x.slight(0, 1, weight));
-        }
-        for (int i = 0; i < 20; i++) {
-            x.slight(0, 1, 2);
-        }
-        CHECKS.badState("slight(0, 1, 2), the 21st", x, () -> x.slight(0, 1, 2));
-        CHECKS.badArgument("slight(0, 0, 2), the 21st", x, () -> x.slight(0, 0, 2));
-        CHECKS.badArgument("slight(0, 1, 21), the 21st", x, () -> x.slight(0, 1, 21));
-        CHECKS.noSuch("slight(0, 3, 21), the 21st", x, () -> x.slight(0, 3, 21));
-        x.apologize(0, 2);
-        CHECKS.badState("slight(0, 1, 2) with one of 20 settled", x, () -> x.slight(0, 1, 2));
-    }
-
     private static void mention() {
         ApologyLedger x = Ledgers.ofThree();
         x.slight(0, 1, 20);
@@ -142,17 +95,6 @@ public final class WritingTest {
         x.pass(2);
         CHECKS.same("mention(0) at 99", x.mention(0), 99);
         CHECKS.same("quietFor(0) at 99", x.quietFor(0), 0);
-    }
-
-    private static void mentionRefusals() {
-        ApologyLedger x = Ledgers.ofEachState();
-        for (int nothing : Ledgers.NOTHING) {
-            CHECKS.noSuch("mention(" + nothing + ")", x, () -> x.mention(nothing));
-        }
-        CHECKS.noSuch("mention(5)", x, () -> x.mention(5));
-        CHECKS.badState("mention(1), settled", x, () -> x.mention(1));
-        CHECKS.badState("mention(2), forgotten", x, () -> x.mention(2));
-        CHECKS.badState("mention(3), set off", x, () -> x.mention(3));
     }
 
     private static void apologize() {
@@ -216,24 +158,6 @@ public final class WritingTest {
         CHECKS.same("borneFor(0) when settled", x.borneFor(0), 7);
     }
 
-    private static void apologizeRefusals() {
-        ApologyLedger x = Ledgers.ofEachState();
-        for (int nothing : Ledgers.NOTHING) {
-            CHECKS.noSuch("apologize(" + nothing + ", 1)", x, () -> x.apologize(nothing, 1));
-            CHECKS.noSuch("apologize(" + nothing + ", 0)", x, () -> x.apologize(nothing, 0));
-        }
-        CHECKS.noSuch("apologize(5, 1)", x, () -> x.apologize(5, 1));
-        for (int words : new int[] {0, 21, -1, Integer.MIN_VALUE, Integer.MAX_VALUE}) {
-            for (int slight = 0; slight < 4; slight++) {
-                int which = slight;
-                CHECKS.badArgument("apologize(" + which + ", " + words + ")", x, () -> x.apologize(which, words));
-            }
-        }
-        CHECKS.badState("apologize(1, 1), settled", x, () -> x.apologize(1, 1));
-        CHECKS.badState("apologize(2, 20), forgotten", x, () -> x.apologize(2, 20));
-        CHECKS.badState("apologize(3, 1), set off", x, () -> x.apologize(3, 1));
-    }
-
     private static void setOff() {
         ApologyLedger x = Ledgers.ofThree();
         x.slight(0, 1, 10);
@@ -259,43 +183,12 @@ public final class WritingTest {
         CHECKS.same("stateOf(4)", x.stateOf(4), Ledgers.OPEN);
     }
 
-    private static void setOffRefusals() {
-        ApologyLedger x = Ledgers.ofEachState();
-        x.slight(0, 1, 3);
-        x.slight(1, 2, 3);
-        x.slight(1, 0, 3);
-        for (int nothing : Ledgers.NOTHING) {
-            CHECKS.noSuch("setOff(" + nothing + ", 0)", x, () -> x.setOff(nothing, 0));
-            CHECKS.noSuch("setOff(0, " + nothing + ")", x, () -> x.setOff(0, nothing));
-            CHECKS.noSuch("setOff(1, " + nothing + "), settled", x, () -> x.setOff(1, nothing));
-        }
-        CHECKS.noSuch("setOff(8, 0)", x, () -> x.setOff(8, 0));
-        CHECKS.noSuch("setOff(0, 8)", x, () -> x.setOff(0, 8));
-        CHECKS.badState("setOff(0, 0)", x, () -> x.setOff(0, 0));
-        CHECKS.badState("setOff(0, 5), the same two persons", x, () -> x.setOff(0, 5));
-        CHECKS.badState("setOff(0, 6), in a chain", x, () -> x.setOff(0, 6));
-        CHECKS.badState("setOff(6, 0), in a chain", x, () -> x.setOff(6, 0));
-        CHECKS.badState("setOff(3, 4), the first set off", x, () -> x.setOff(3, 4));
-        CHECKS.badState("setOff(4, 3), the other set off", x, () -> x.setOff(4, 3));
-        x.slight(2, 1, 3);
-        CHECKS.badState("setOff(1, 8), the first settled", x, () -> x.setOff(1, 8));
-        CHECKS.badState("setOff(8, 1), the other settled", x, () -> x.setOff(8, 1));
-        CHECKS.same("setOff(7, 0), which does", x.setOff(7, 0), 3);
-    }
-
     private static void setPride() {
         ApologyLedger x = Ledgers.withPrides(4, 6);
         CHECKS.same("setPride(1, 9)", x.setPride(1, 9), 6);
         CHECKS.same("setPride(1, 0)", x.setPride(1, 0), 9);
         CHECKS.same("prideOf(1)", x.prideOf(1), 0);
         CHECKS.same("prideOf(0)", x.prideOf(0), 4);
-        for (int pride : new int[] {-1, 10, Integer.MIN_VALUE, Integer.MAX_VALUE}) {
-            CHECKS.badArgument("setPride(0, " + pride + ")", x, () -> x.setPride(0, pride));
-            CHECKS.noSuch("setPride(2, " + pride + ")", x, () -> x.setPride(2, pride));
-        }
-        for (int nobody : Ledgers.NOBODY) {
-            CHECKS.noSuch("setPride(" + nobody + ", 1)", x, () -> x.setPride(nobody, 1));
-        }
     }
 
     private static void pass() {
@@ -372,10 +265,4 @@ public final class WritingTest {
         CHECKS.same("weightOf(3), set off", x.weightOf(3), 0);
     }
 
-    private static void passRefusals() {
-        ApologyLedger x = Ledgers.ofEachState();
-        for (int days : new int[] {0, 61, -1, Integer.MIN_VALUE, Integer.MAX_VALUE}) {
-            CHECKS.badArgument("pass(" + days + ")", x, () -> x.pass(days));
-        }
-    }
 }
