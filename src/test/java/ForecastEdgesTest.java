@@ -20,6 +20,7 @@ public final class ForecastEdgesTest {
         wouldBeScornedWords();
         wouldBeScornedBoth();
         weightInAsDaysGo();
+        weightInBySpokenOf();
         weightInOfNotOpen();
         weightInNothing();
         weightInDays();
@@ -203,6 +204,20 @@ public final class ForecastEdgesTest {
             CHECKS.same("weightIn(0, 5) at " + weight,
                 Ledgers.withWeight(weight).weightIn(0, 5), weightBehind(Ledgers.withWeight(weight), 5));
         }
+    }
+
+    /** Days borne and quiet days are not the same any more: the first let it get heavier, the others be forgotten. */
+    private static void weightInBySpokenOf() {
+        CHECKS.sentence("Promise 33", "Returns its weight behind them, if nothing is done by hand");
+        ApologyLedger x = Ledgers.quietFor(3);
+        x.mention(0);
+        CHECKS.same("weightIn(0, 1), spoken of on the day 3", x.weightIn(0, 1), 21);
+        CHECKS.same("weightIn(0, 2)", x.weightIn(0, 2), 23);
+        CHECKS.same("weightIn(0, 6)", x.weightIn(0, 6), 23);
+        CHECKS.same("weightIn(0, 7)", x.weightIn(0, 7), 25);
+        CHECKS.same("weightIn(0, 27), borne for 30 days", x.weightIn(0, 27), 34);
+        CHECKS.same("weightIn(0, 29), quiet for 29 days", x.weightIn(0, 29), 34);
+        CHECKS.same("weightIn(0, 30), quiet for 30 days", x.weightIn(0, 30), 0);
     }
 
     private static void weightInOfNotOpen() {
