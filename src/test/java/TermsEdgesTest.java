@@ -18,6 +18,7 @@ public final class TermsEdgesTest {
 
     public static void main(String[] args) {
         theLastCall();
+        cutTowardsNothing();
         timeFromNothing();
         sixPersons();
         prideFromNothingToNine();
@@ -66,6 +67,15 @@ public final class TermsEdgesTest {
             steps.day();
         }
         CHECKS.same("addPerson(5), the call 512", steps.addPerson(5), 0);
+    }
+
+    /** Just below the next whole number: a fourth part of 23, and a tenth part of 29 and of 19. */
+    private static void cutTowardsNothing() {
+        CHECKS.sentence("Terms", "All numbers are whole, and / is cut towards 0.");
+        CHECKS.same("apologize(0, 5) at 23", Ledgers.withWeight(23).apologize(0, 5), 18);
+        CHECKS.same("apologize(0, 4) at 23", Ledgers.withWeight(23).apologize(0, 4), 24);
+        CHECKS.same("weightIn(0, 5) at 29", Ledgers.withWeight(29).weightIn(0, 5), 31);
+        CHECKS.same("weightIn(0, 5) at 19", Ledgers.withWeight(19).weightIn(0, 5), 20);
     }
 
     private static void timeFromNothing() {
